@@ -13,6 +13,7 @@ final class Model {
     static final int BEYOND = LOW, FULL = LOW - 1, KIND = LOW - 2, NONE = LOW - 3, STATE = LOW - 4,
         MISSING = LOW - 5, SIZE = LOW - 6;
 
+    @SuppressWarnings("serial")
     static final class Finding extends RuntimeException {
         final int number;
 
