@@ -61,7 +61,7 @@ public final class SnailLaws {
 
     private final Republic real = new Republic();
     private final Republic kept = new Republic();
-    private final Forecast forecast = new Forecast(real);
+    private final Forecast forecast = new Forecast();
     private final Ways ways = new Ways();
     private final Tape tape = new Tape();
     private final Sheets sheets = new Sheets();
@@ -243,21 +243,21 @@ public final class SnailLaws {
         if (!isSnail(snail) || !isWithin(n, MOST_AHEAD)) {
             return tell(BEYOND);
         }
-        return forecast.behind(n).ats[snail];
+        return forecast.behind(real, n).ats[snail];
     }
 
     public int lawAt(int cell, int n) {
         if (!isCell(cell) || !isWithin(n, MOST_AHEAD)) {
             return tell(BEYOND);
         }
-        return forecast.behind(n).laws[cell];
+        return forecast.behind(real, n).laws[cell];
     }
 
     public int reaches(int law, int cell) {
         if (!isLaw(law) || !isCell(cell)) {
             return tell(BEYOND);
         }
-        int days = forecast.daysToLaw(law, cell, real.wet);
+        int days = forecast.daysToLaw(real, law, cell, real.wet);
         return days == NEVER ? tell(NONE) : days;
     }
 
@@ -268,7 +268,7 @@ public final class SnailLaws {
         int best = NONE;
         int fewest = NEVER;
         for (int wet = 0; wet <= MOST_WET; wet++) {
-            int days = forecast.daysToLaw(law, cell, wet);
+            int days = forecast.daysToLaw(real, law, cell, wet);
             if (days < fewest) {
                 fewest = days;
                 best = wet;
@@ -281,7 +281,7 @@ public final class SnailLaws {
         if (!isSnail(snail)) {
             return tell(BEYOND);
         }
-        int days = forecast.daysToGate(snail, real.kinds[snail]);
+        int days = forecast.daysToGate(real, snail, real.kinds[snail]);
         return days == NEVER ? tell(NONE) : days;
     }
 
@@ -292,7 +292,7 @@ public final class SnailLaws {
         int best = NONE;
         int fewest = NEVER;
         for (int kind = 0; kind < KINDS; kind++) {
-            int days = forecast.daysToGate(snail, kind);
+            int days = forecast.daysToGate(real, snail, kind);
             if (days < fewest) {
                 fewest = days;
                 best = kind;
@@ -305,7 +305,7 @@ public final class SnailLaws {
         if (!isSnail(a) || !isSnail(b) || a == b) {
             return tell(BEYOND);
         }
-        int days = forecast.daysToOvertake(a, b);
+        int days = forecast.daysToOvertake(real, a, b);
         return days == NEVER ? tell(NONE) : days;
     }
 
@@ -313,8 +313,8 @@ public final class SnailLaws {
         if (!isLaw(law) || !isLaw(other) || !isCell(cell)) {
             return tell(BEYOND);
         }
-        int days = forecast.daysToLaw(law, cell, real.wet);
-        int otherDays = forecast.daysToLaw(other, cell, real.wet);
+        int days = forecast.daysToLaw(real, law, cell, real.wet);
+        int otherDays = forecast.daysToLaw(real, other, cell, real.wet);
         return days == NEVER || otherDays == NEVER ? tell(NONE) : days - otherDays;
     }
 
@@ -322,7 +322,7 @@ public final class SnailLaws {
         if (!isWithin(n, MOST_GO)) {
             return tell(BEYOND);
         }
-        int cell = forecast.cellOfMostClashes(n);
+        int cell = forecast.cellOfMostClashes(real, n);
         return cell == NONE ? tell(NONE) : cell;
     }
 
@@ -332,7 +332,7 @@ public final class SnailLaws {
         if (!isLaw(law) || !isCell(cell) || !isWithin(n, MOST_GO)) {
             return tell(BEYOND);
         }
-        int set = forecast.cheapestSet(law, cell, n);
+        int set = forecast.cheapestSet(real, law, cell, n);
         return set == NONE ? tell(NONE) : set;
     }
 
@@ -340,7 +340,7 @@ public final class SnailLaws {
         if (!isLaw(law) || !isCell(cell) || !isWithin(n, MOST_GO)) {
             return tell(BEYOND);
         }
-        int set = forecast.cheapestSet(law, cell, n);
+        int set = forecast.cheapestSet(real, law, cell, n);
         return set == NONE ? tell(NONE) : real.priceOf(set);
     }
 
@@ -351,7 +351,7 @@ public final class SnailLaws {
         if (real.hedges[real.gates[snail]] == 1) {
             return tell(NONE);
         }
-        return forecast.farthestStart(snail, n);
+        return forecast.farthestStart(real, snail, n);
     }
 
     // ---- trails
@@ -361,10 +361,10 @@ public final class SnailLaws {
         if (flaw != 0) {
             return tell(flaw);
         }
-        forecast.survey();
+        forecast.survey(real);
         int starts = 0;
         for (int cell = 0; cell < CELLS; cell++) {
-            if (forecast.leavesTrail(sheets, s, snail, cell)) {
+            if (forecast.leavesTrail(real, snail, cell, sheets, s)) {
                 starts++;
             }
         }
@@ -376,9 +376,9 @@ public final class SnailLaws {
         if (flaw != 0) {
             return tell(flaw);
         }
-        forecast.survey();
+        forecast.survey(real);
         for (int cell = 0; cell < CELLS; cell++) {
-            if (forecast.leavesTrail(sheets, s, snail, cell)) {
+            if (forecast.leavesTrail(real, snail, cell, sheets, s)) {
                 return cell;
             }
         }
@@ -439,7 +439,7 @@ public final class SnailLaws {
     }
 
     public int text() {
-        int items = tape.readInto(forecast.draftOfNow());
+        int items = tape.readInto(forecast.draftOf(real));
         if (items > 0) {
             real.become(forecast.draft);
         }
@@ -987,26 +987,21 @@ public final class SnailLaws {
     /** Tries out, on a draft of the republic, what days will bring. */
     private static final class Forecast {
         final Republic draft = new Republic();
-        private final Republic real;
         private final Ways ways = new Ways();
 
-        Forecast(Republic real) {
-            this.real = real;
-        }
-
-        Republic draftOfNow() {
+        Republic draftOf(Republic real) {
             draft.become(real);
             return draft;
         }
 
-        void survey() {
+        void survey(Republic real) {
             ways.survey(real);
         }
 
         /** The republic as it is behind n DAYS. */
-        Republic behind(int n) {
+        Republic behind(Republic real, int n) {
             draft.become(real);
-            survey();
+            survey(real);
             draft.passDays(ways, ALL_SNAILS, n);
             return draft;
         }
@@ -1015,10 +1010,10 @@ public final class SnailLaws {
             draft.passDays(ways, ALL_SNAILS, 1);
         }
 
-        int daysToLaw(int law, int cell, int wet) {
+        int daysToLaw(Republic real, int law, int cell, int wet) {
             draft.become(real);
             draft.wet = wet;
-            survey();
+            survey(real);
             int days = 0;
             while (days < NEVER && draft.laws[cell] != law) {
                 passDay();
@@ -1027,10 +1022,10 @@ public final class SnailLaws {
             return days;
         }
 
-        int daysToGate(int snail, int kind) {
+        int daysToGate(Republic real, int snail, int kind) {
             draft.become(real);
             draft.kinds[snail] = kind;
-            survey();
+            survey(real);
             int days = 0;
             while (days < NEVER && draft.ats[snail] != draft.gates[snail]) {
                 passDay();
@@ -1039,9 +1034,9 @@ public final class SnailLaws {
             return days;
         }
 
-        int daysToOvertake(int a, int b) {
+        int daysToOvertake(Republic real, int a, int b) {
             draft.become(real);
-            survey();
+            survey(real);
             int days = 0;
             while (days < NEVER && !isNearer(a, b)) {
                 passDay();
@@ -1054,9 +1049,9 @@ public final class SnailLaws {
             return ways.gateStepsOf(b, draft.ats[a]) < ways.gateStepsOf(b, draft.ats[b]);
         }
 
-        int cellOfMostClashes(int n) {
+        int cellOfMostClashes(Republic real, int n) {
             Arrays.fill(draft.met, 0);
-            behind(n);
+            behind(real, n);
             int best = NONE;
             int most = 0;
             for (int cell = 0; cell < CELLS; cell++) {
@@ -1069,14 +1064,14 @@ public final class SnailLaws {
         }
 
         /** Sets go upward and only a cheaper one counts, so the least of equals stays. */
-        int cheapestSet(int law, int cell, int n) {
-            survey();
+        int cheapestSet(Republic real, int law, int cell, int n) {
+            survey(real);
             int best = NONE;
             int least = MOST_SNAILS * MOST_PRICE + 1;
             int sets = 1 << real.snails;
             for (int set = 0; set < sets; set++) {
                 int price = real.priceOf(set);
-                if (price < least && bringsLaw(set, law, cell, n)) {
+                if (price < least && bringsLaw(real, set, law, cell, n)) {
                     best = set;
                     least = price;
                 }
@@ -1084,8 +1079,8 @@ public final class SnailLaws {
             return best;
         }
 
-        private boolean bringsLaw(int set, int law, int cell, int n) {
-            if (real.laws[cell] != law && !bearsLaw(set, law)) {
+        private boolean bringsLaw(Republic real, int set, int law, int cell, int n) {
+            if (real.laws[cell] != law && !bearsLaw(real, set, law)) {
                 return false;
             }
             draft.become(real);
@@ -1093,7 +1088,7 @@ public final class SnailLaws {
             return draft.laws[cell] == law;
         }
 
-        private boolean bearsLaw(int set, int law) {
+        private boolean bearsLaw(Republic real, int set, int law) {
             for (int snail = 0; snail < real.snails; snail++) {
                 if ((set >> snail & 1) == 1 && real.edicts[snail] == law) {
                     return true;
@@ -1103,13 +1098,13 @@ public final class SnailLaws {
         }
 
         /** Where the GATE is no HEDGE: it itself is far enough for any n. */
-        int farthestStart(int snail, int n) {
-            survey();
+        int farthestStart(Republic real, int snail, int n) {
+            survey(real);
             int best = real.gates[snail];
             int most = 0;
             for (int cell = 0; cell < CELLS; cell++) {
                 int steps = ways.gateStepsOf(snail, cell);
-                if (steps > most && steps < NO_WAY && arrivesFrom(snail, cell, n)) {
+                if (steps > most && steps < NO_WAY && arrivesFrom(real, snail, cell, n)) {
                     most = steps;
                     best = cell;
                 }
@@ -1117,7 +1112,7 @@ public final class SnailLaws {
             return best;
         }
 
-        private boolean arrivesFrom(int snail, int cell, int n) {
+        private boolean arrivesFrom(Republic real, int snail, int cell, int n) {
             draft.become(real);
             draft.ats[snail] = cell;
             for (int d = 0; d < n && draft.ats[snail] != draft.gates[snail]; d++) {
@@ -1127,7 +1122,7 @@ public final class SnailLaws {
         }
 
         /** Whether a SNAIL that is AT a CELL now will be where a sheet tells; asks for a survey. */
-        boolean leavesTrail(Sheets sheets, int s, int snail, int cell) {
+        boolean leavesTrail(Republic real, int snail, int cell, Sheets sheets, int s) {
             draft.become(real);
             draft.ats[snail] = cell;
             for (int i = 0; i < sheets.sizes[s]; i++) {

@@ -102,6 +102,10 @@ final class ForecastTest {
         add(4, 0, 1, 36);
         add(4, 0, 2, 37);
         x.set(0, 0);
+        Check.due("twenty-one steps, the last on day 100", x.comes(1), Check.NONE);
+        Check.due("behind 101 days its law", x.reaches(2, 37), Check.NONE);
+        Check.due("nor is it nearer by then", x.overtakes(1, 0), Check.NONE);
+        Check.due("twenty of them", x.comes(0), 96);
         x.go(1);
         x.change(0, 1, 0);
         x.change(1, 1, 0);

@@ -68,6 +68,14 @@ final class TextTest {
         Check.due("wet of the last", x.now(4), 2);
         due("wet 0000000000000000000000000000000000000000000000000000000000000000000004", 1);
         Check.due("wet of many digits", x.now(4), 4);
+        due("bans 7 0;greens 0 0;greens 80 9;thrush 0;wet 0", 5);
+        Check.due("bans of none", x.bans(7, 0), 0);
+        Check.due("greens 0", x.land(0, 1), 0);
+        Check.due("greens 9", x.land(80, 1), 9);
+        Check.due("thrush 0", x.set(1, 1), 0);
+        Check.due("wet 0", x.now(4), 0);
+        due("snail at 0 law 7 gate 80 price 99", 1);
+        dueSnail(7, 0, 0, 7, 80, 99);
         Check.due("no findings", x.status(-1), 0);
     }
 
@@ -81,7 +89,9 @@ final class TextTest {
             "wet 1000", "wet 4294967296", "wet 18446744073709551617", "bans 0 1000", "at 5", "law 1", "wet\t5",
             "wet 5\n", "wet 5;thrush 3;hedge", "wet 5 thrush 3", "snailat 5", "a", "wet 5 a", "wet 5 9",
             "wet 5\u00e9", "\u0000", "wet 5;\u00ff", "snail at 5law 3;snail at 5 law 3 x", "we t 5", "wet 5 5",
-            "wetx", "we"};
+            "wetx", "we", "snailz", "slowa", "wet 5z", "thrush", "bans", "bans 0", "greens", "greens 0",
+            "snail law", "snail gate", "snail price", ";".repeat(120), "snail" + ";".repeat(115),
+            "wet 5" + " ".repeat(114) + ";"};
         int[] faults = {0, 1, 3, 0, 0, 0, 0, 8, 9, 9,
             9, 10, 11, 12, 12,
             14, 11, 6, 5, 6, 8, 6,
@@ -90,7 +100,9 @@ final class TextTest {
             4, 4, 4, 7, 0, 0, 3,
             5, 20, 6, 0, 0, 6, 6,
             5, 0, 6, 33, 0, 6,
-            0, 0};
+            0, 0, 0, 0, 5, 6, 4, 6, 6, 8,
+            9, 10, 11, 0, 6,
+            120};
         for (int i = 0; i < texts.length; i++) {
             due(texts[i], -1 - faults[i]);
         }
