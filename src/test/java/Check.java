@@ -26,6 +26,14 @@ final class Check {
         }
     }
 
+    /** A new snail that bears a law to a gate. */
+    static int add(SnailLaws x, int kind, int cell, int law, int gate) {
+        int s = x.snail(kind, cell);
+        x.change(s, 2, law);
+        x.change(s, 3, gate);
+        return s;
+    }
+
     /** Feeds a text byte by byte and reads it. */
     static int read(SnailLaws x, String text) {
         x.wipe();

@@ -2,13 +2,6 @@
 final class DaysTest {
     private static SnailLaws x;
 
-    private static int add(int kind, int cell, int law, int gate) {
-        int s = x.snail(kind, cell);
-        x.change(s, 2, law);
-        x.change(s, 3, gate);
-        return s;
-    }
-
     private static void dueLaws(String when, int[] cells, int law) {
         for (int cell : cells) {
             Check.due(when + " at " + cell, x.land(cell, 2), law);
@@ -18,7 +11,7 @@ final class DaysTest {
     /** First BESIDE it by above, right, below, left; each CELL on the way comes under the LAW. */
     private static void promise11Moves() {
         x = new SnailLaws();
-        add(5, 40, 1, 0);
+        Check.add(x, 5, 40, 1, 0);
         Check.due("go", x.go(1), 0);
         Check.due("above first", x.of(0, 1), 13);
         dueLaws("the way", new int[] {40, 31, 22, 13}, 1);
@@ -40,8 +33,8 @@ final class DaysTest {
 
     private static void promise11Stays() {
         x = new SnailLaws();
-        add(0, 0, 1, 80);
-        add(0, 10, 2, 80);
+        Check.add(x, 0, 0, 1, 80);
+        Check.add(x, 0, 10, 2, 80);
         x.hedge(0, 1);
         x.hedge(1, 1);
         x.hedge(9, 1);
@@ -63,15 +56,15 @@ final class DaysTest {
 
     private static void promise11Clashes() {
         x = new SnailLaws();
-        add(0, 0, 1, 8);
-        add(0, 2, 2, 8);
+        Check.add(x, 0, 0, 1, 8);
+        Check.add(x, 0, 2, 2, 8);
         Check.due("the second comes where the first went", x.go(1), 1);
         Check.due("the later one is in force", x.land(2, 2), 2);
         Check.due("behind it the first", x.land(1, 2), 1);
         Check.due("three by the first and one by the second more", x.go(1), 5);
         x = new SnailLaws();
-        add(0, 4, 3, 4);
-        add(0, 4, 3, 4);
+        Check.add(x, 0, 4, 3, 4);
+        Check.add(x, 0, 4, 3, 4);
         Check.due("the same law is no clash", x.go(5), 0);
         x.change(1, 2, 4);
         Check.due("1 and then 2 a day", x.go(2), 3);
@@ -79,7 +72,7 @@ final class DaysTest {
 
     private static void promise11Greens() {
         x = new SnailLaws();
-        add(1, 0, 0, 80);
+        Check.add(x, 1, 0, 0, 80);
         x.greens(0, 2);
         x.go(1);
         Check.due("stays to eat", x.of(0, 1), 0);
@@ -115,7 +108,7 @@ final class DaysTest {
         }
         Check.due("no day went by", x.now(0), 0);
         for (int s = 0; s < 8; s++) {
-            add(0, 80, s % 2, 80);
+            Check.add(x, 0, 80, s % 2, 80);
         }
         Check.due("eight clashes a day, seven on the first", x.go(40), 319);
         for (int i = 2; i < 313; i++) {
@@ -132,9 +125,9 @@ final class DaysTest {
     private static void promise12() {
         x = new SnailLaws();
         x.set(0, 0);
-        add(0, 0, 1, 0);
-        add(0, 9, 2, 80);
-        add(0, 72, 3, 72);
+        Check.add(x, 0, 0, 1, 0);
+        Check.add(x, 0, 9, 2, 80);
+        Check.add(x, 0, 72, 3, 72);
         x.hedge(72, 1);
         x.greens(5, 9);
         x.greens(6, 4);
@@ -154,8 +147,8 @@ final class DaysTest {
 
     private static void promises13And14() {
         x = new SnailLaws();
-        add(5, 0, 7, 8);
-        add(0, 80, 0, 80);
+        Check.add(x, 5, 0, 7, 8);
+        Check.add(x, 0, 80, 0, 80);
         x.go(1);
         Check.due("realm", x.realm(7), 4);
         Check.due("realm of the first", x.realm(0), 1);
@@ -174,8 +167,8 @@ final class DaysTest {
     /** LAW 1 at CELLS 0 to 3, which bans 0 and 7; LAW 2 at 80, which bans 1. */
     private static void layLaws() {
         x = new SnailLaws();
-        add(5, 0, 1, 8);
-        add(0, 80, 2, 80);
+        Check.add(x, 5, 0, 1, 8);
+        Check.add(x, 0, 80, 2, 80);
         x.bans(1, 129);
         x.bans(2, 2);
         x.go(1);

@@ -2,13 +2,6 @@
 final class ForecastTest {
     private static SnailLaws x;
 
-    private static int add(int kind, int cell, int law, int gate) {
-        int s = x.snail(kind, cell);
-        x.change(s, 2, law);
-        x.change(s, 3, gate);
-        return s;
-    }
-
     /** All that an act which changes nothing might have changed. */
     private static long trace() {
         long sum = x.now(0) + 3L * x.now(1) + 5L * x.now(2) + 7L * x.now(3) + 11L * x.now(4) + x.count(6);
@@ -25,8 +18,8 @@ final class ForecastTest {
 
     private static void promises19And20() {
         x = new SnailLaws();
-        add(0, 0, 1, 8);
-        add(5, 80, 2, 0);
+        Check.add(x, 0, 0, 1, 8);
+        Check.add(x, 5, 80, 2, 0);
         Check.due("ahead now", x.ahead(0, 0), 0);
         Check.due("ahead", x.ahead(0, 3), 6);
         Check.due("ahead at its gate", x.ahead(0, 100), 8);
@@ -55,8 +48,8 @@ final class ForecastTest {
 
     private static void promise21() {
         x = new SnailLaws();
-        add(0, 0, 1, 8);
-        add(0, 2, 2, 2);
+        Check.add(x, 0, 0, 1, 8);
+        Check.add(x, 0, 2, 2, 2);
         Check.due("reaches", x.reaches(1, 0), 1);
         Check.due("reaches", x.reaches(1, 8), 4);
         Check.due("not within a day", x.reaches(1, 2), Check.NONE);
@@ -81,7 +74,7 @@ final class ForecastTest {
     private static void hundredDays() {
         x = new SnailLaws();
         layLongWay();
-        add(0, 0, 1, 80);
+        Check.add(x, 0, 0, 1, 80);
         x.set(0, 0);
         Check.due("way", x.far(0, 80), 48);
         Check.due("reaches in 48", x.reaches(1, 80), 48);
@@ -99,8 +92,8 @@ final class ForecastTest {
         Check.due("greedy: 9 days and 24", x.comes(0), 33);
         x = new SnailLaws();
         layLongWay();
-        add(4, 0, 1, 36);
-        add(4, 0, 2, 37);
+        Check.add(x, 4, 0, 1, 36);
+        Check.add(x, 4, 0, 2, 37);
         x.set(0, 0);
         Check.due("twenty-one steps, the last on day 100", x.comes(1), Check.NONE);
         Check.due("behind 101 days its law", x.reaches(2, 37), Check.NONE);
@@ -134,12 +127,12 @@ final class ForecastTest {
 
     private static void promise22() {
         x = new SnailLaws();
-        add(0, 0, 1, 8);
+        Check.add(x, 0, 0, 1, 8);
         x.set(0, 3);
         Check.due("the least of the wet ones", x.wetFor(1, 8), 5);
         Check.due("the first day by any", x.wetFor(1, 1), 0);
         Check.due("by none", x.wetFor(2, 8), Check.NONE);
-        add(0, 2, 2, 2);
+        Check.add(x, 0, 2, 2, 2);
         Check.due("only in the dry does it stand a night", x.wetFor(1, 1), 0);
         x.change(1, 0, 2);
         x.change(1, 1, 3);
@@ -151,7 +144,7 @@ final class ForecastTest {
 
     private static void promises23And24() {
         x = new SnailLaws();
-        add(0, 0, 0, 80);
+        Check.add(x, 0, 0, 0, 80);
         Check.due("comes", x.comes(0), 8);
         Check.due("as a glutton", x.kindFor(0), 6);
         x.greens(0, 3);
@@ -178,8 +171,8 @@ final class ForecastTest {
 
     private static void promise25() {
         x = new SnailLaws();
-        add(0, 0, 0, 80);
-        add(2, 2, 0, 8);
+        Check.add(x, 0, 0, 0, 80);
+        Check.add(x, 2, 2, 0, 8);
         Check.due("overtakes: 2 a day against 1, 2 behind", x.overtakes(0, 1), 3);
         Check.due("the other is nearer now", x.overtakes(1, 0), 0);
         x.change(1, 0, 5);
@@ -197,8 +190,8 @@ final class ForecastTest {
 
     private static void promise26() {
         x = new SnailLaws();
-        add(0, 0, 1, 8);
-        add(2, 0, 2, 8);
+        Check.add(x, 0, 0, 1, 8);
+        Check.add(x, 2, 0, 2, 8);
         Check.due("lag below 0", x.lag(1, 2, 8), 4 - 8);
         Check.due("lag", x.lag(2, 1, 8), 8 - 4);
         Check.due("of itself", x.lag(1, 1, 8), 0);
@@ -214,8 +207,8 @@ final class ForecastTest {
 
     private static void promise27() {
         x = new SnailLaws();
-        add(0, 0, 1, 8);
-        add(0, 2, 2, 8);
+        Check.add(x, 0, 0, 1, 8);
+        Check.add(x, 0, 2, 2, 8);
         Check.due("no days, no clash", x.clash(0), Check.NONE);
         Check.due("the first", x.clash(1), 2);
         Check.due("then of 2, 3 and 4 the most", x.clash(2), 2);
@@ -234,9 +227,9 @@ final class ForecastTest {
 
     private static void promises28And29() {
         x = new SnailLaws();
-        add(0, 0, 1, 8);
-        add(0, 0, 1, 8);
-        add(0, 0, 2, 8);
+        Check.add(x, 0, 0, 1, 8);
+        Check.add(x, 0, 0, 1, 8);
+        Check.add(x, 0, 0, 2, 8);
         x.change(0, 4, 9);
         x.change(1, 4, 7);
         Check.due("the cheaper", x.release(1, 2, 1), 2);
@@ -266,8 +259,8 @@ final class ForecastTest {
     /** A greedy one is held by greens that only another greedy one eats up in time. */
     private static void releaseOfTwo() {
         x = new SnailLaws();
-        add(1, 0, 2, 0);
-        add(1, 0, 1, 8);
+        Check.add(x, 1, 0, 2, 0);
+        Check.add(x, 1, 0, 1, 8);
         x.greens(0, 4);
         x.change(0, 4, 5);
         x.change(1, 4, 6);
@@ -276,7 +269,7 @@ final class ForecastTest {
         Check.due("alone it takes longer", x.release(1, 4, 6), 2);
         Check.due("cost of one", x.costs(1, 4, 6), 6);
         for (int s = 2; s < 8; s++) {
-            add(5, 80, 3, 80);
+            Check.add(x, 5, 80, 3, 80);
             x.change(s, 4, 99);
         }
         Check.due("of all eight still the two", x.release(1, 4, 4), 3);
@@ -286,7 +279,7 @@ final class ForecastTest {
 
     private static void promise30() {
         x = new SnailLaws();
-        add(0, 40, 0, 40);
+        Check.add(x, 0, 40, 0, 40);
         Check.due("in no day", x.farthest(0, 0), 40);
         Check.due("two steps a day", x.farthest(0, 1), 22);
         Check.due("the least of all so far", x.farthest(0, 2), 4);
@@ -318,7 +311,7 @@ final class ForecastTest {
         x.sheet(0, 8, 0);
         Check.due("fits no such snail", x.fits(0, 0), Check.BEYOND);
         Check.due("began no such snail", x.began(0, -1), Check.BEYOND);
-        add(0, 40, 0, 8);
+        Check.add(x, 0, 40, 0, 8);
         Check.due("an empty sheet: anywhere", x.fits(0, 0), 81);
         Check.due("the least", x.began(0, 0), 0);
         x.sheet(0, 8, 3);
@@ -359,7 +352,7 @@ final class ForecastTest {
     private static void nothingChanges() {
         x = new SnailLaws();
         for (int s = 0; s < 8; s++) {
-            add(s % 7, 10 * s, s % 3, 80 - 7 * s);
+            Check.add(x, s % 7, 10 * s, s % 3, 80 - 7 * s);
             x.greens(10 * s, s);
         }
         x.go(2);
