@@ -8,7 +8,10 @@ import java.util.List;
 /** Long runs of calls by a fixed draw, each compared with the answer of the model. */
 final class FuzzTest {
     private static final int RUNS = 300;
+    /** What an object is asked at most, at the end by askAll() and by one step of a run. */
     private static final int CALLS = 512;
+    private static final int LAST_CALLS = 9 * 3 + 81 + 8 * 2;
+    private static final int STEP_CALLS = 60;
     private static final String[] WORDS = {"snail", "greedy", "slow", "sleepy", "elder", "borne",
         "glutton", "at", "law", "gate", "price", "hedge", "greens", "bans", "wet", "thrush", "snails"};
 
@@ -17,6 +20,7 @@ final class FuzzTest {
     private SnailLaws x;
     private Model model;
     private String run;
+    private int calls;
 
     private FuzzTest(long seed) {
         draw = seed;
@@ -112,6 +116,7 @@ final class FuzzTest {
     }
 
     private void ask(String name, int... args) throws ReflectiveOperationException {
+        calls++;
         Method m = real.stream().filter(r -> r.getName().equals(name)).findFirst().orElseThrow();
         Method twin = Model.class.getDeclaredMethod(name, m.getParameterTypes());
         long want;
@@ -225,6 +230,7 @@ final class FuzzTest {
         x = new SnailLaws();
         model = new Model();
         run = "run " + number + ": ";
+        calls = 0;
         boolean crowded = odds(70);
         if (odds(70)) {
             layHedges(below(40));
@@ -235,7 +241,7 @@ final class FuzzTest {
             ask("change", model.w.snails.size() - 1, 3, below(81));
             ask("change", model.w.snails.size() - 1, 4, below(6));
         }
-        for (int i = 150; i < CALLS - 150; i++) {
+        while (calls < CALLS - LAST_CALLS - STEP_CALLS) {
             int sort = below(40);
             if (sort == 0) {
                 readText();
@@ -250,6 +256,7 @@ final class FuzzTest {
             }
         }
         askAll();
+        Check.due(run + "calls are too many", calls > CALLS ? calls : 0, 0);
     }
 
     public static void main(String[] args) throws ReflectiveOperationException {

@@ -52,7 +52,7 @@ final class ImageTest {
     }
 
     private static long[] state() {
-        long[] all = new long[40 + 81 * 3];
+        long[] all = new long[30 + 81 * 2];
         int n = 0;
         int[] counts = {0, 1, 2, 3, 4, 6, 7};
         for (int what : counts) {
@@ -67,10 +67,11 @@ final class ImageTest {
         all[n++] = x.alone(1, 0);
         all[n++] = x.free();
         all[n++] = x.as(2, 2);
+        all[n++] = x.land(9, 0);
+        all[n++] = x.land(10, 0);
         for (int cell = 0; cell < 81; cell++) {
-            for (int what = 0; what < 3; what++) {
-                all[n++] = x.land(cell, what);
-            }
+            all[n++] = x.land(cell, 1);
+            all[n++] = x.land(cell, 2);
         }
         return all;
     }
