@@ -1191,12 +1191,10 @@ public final class SnailLaws {
 
         private void cutTokens() {
             int tokens = 0;
-            int place = 0;
-            while (place < size) {
-                if (bytes[place] == ' ') {
-                    place++;
-                } else {
-                    place = cutToken(tokens, place);
+            int behind = 0;
+            for (int place = 0; place < size; place++) {
+                if (place >= behind && bytes[place] != ' ') {
+                    behind = cutToken(tokens, place);
                     tokens++;
                 }
             }

@@ -120,12 +120,22 @@ final class DeedEdgesTest extends Edges {
             due("free()", x.free(), 0);
         });
         test(18, "free: the first and the last DEED in BANS", () -> due("free()", twoLaws().free(), 255 - 129 - 2));
+        test(18, "free: a LAW at the first CELL alone counts", () -> dueFree(0));
+        test(18, "free: a LAW at the last CELL alone counts", () -> dueFree(80));
         test(18, "free: BANS of a LAW that is at a HEDGE alone don't count", () -> {
             SnailLaws x = twoLaws();
             x.hedge(80, 1);
             due("free()", x.free(), 255 - 129);
         });
         test(18, "free: nothing changes", () -> unchanged(92, x -> { }, x -> x.free()));
+    }
+
+    private static void dueFree(int cell) {
+        SnailLaws x = new SnailLaws();
+        Check.add(x, 0, cell, 3, cell);
+        x.bans(3, 16);
+        x.go(1);
+        due("free()", x.free(), 255 - 16);
     }
 
     public static void main(String[] args) {

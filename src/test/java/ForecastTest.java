@@ -73,7 +73,7 @@ final class ForecastTest {
     /** A way of 48 steps, so long that some come just by 100 days, or not. */
     private static void hundredDays() {
         x = new SnailLaws();
-        layLongWay();
+        Check.layLongWay(x);
         Check.add(x, 0, 0, 1, 80);
         x.set(0, 0);
         Check.due("way", x.far(0, 80), 48);
@@ -91,7 +91,7 @@ final class ForecastTest {
         x.change(0, 0, 1);
         Check.due("greedy: 9 days and 24", x.comes(0), 33);
         x = new SnailLaws();
-        layLongWay();
+        Check.layLongWay(x);
         Check.add(x, 4, 0, 1, 36);
         Check.add(x, 4, 0, 2, 37);
         x.set(0, 0);
@@ -115,14 +115,6 @@ final class ForecastTest {
         Check.due("where it is then", x.ahead(1, 100), 36);
         x.change(1, 1, 37);
         Check.due("there now", x.comes(1), 0);
-    }
-
-    private static void layLongWay() {
-        for (int row = 1; row < 9; row += 2) {
-            for (int column = 0; column < 9; column++) {
-                x.hedge(row * 9 + column, column == (row % 4 == 1 ? 8 : 0) ? 0 : 1);
-            }
-        }
     }
 
     private static void promise22() {

@@ -91,6 +91,18 @@ final class FutureEdgesTest extends Edges {
         test(21, "reaches: nothing changes", () -> unchanged(3, x -> { }, x -> x.reaches(1, 8)));
     }
 
+    /** A GREEDY one on the long way: GREENS hold it 9 DAYS at each second CELL, but at the last one of them. */
+    private static SnailLaws grazing(int cells, int last) {
+        int[] way = {0, 2, 4, 6, 8, 26, 24, 22, 20, 18, 36, 38};
+        SnailLaws x = new SnailLaws();
+        Check.layLongWay(x);
+        Check.add(x, 1, 0, 1, 80);
+        for (int i = 0; i < cells; i++) {
+            x.greens(way[i], i == cells - 1 ? last : 9);
+        }
+        return x;
+    }
+
     private static void wetFor() {
         range(22, "wetFor: LAW", 0, 7, (x, v) -> x.wetFor(v, 3));
         range(22, "wetFor: CELL", 0, 80, (x, v) -> x.wetFor(1, v));
@@ -109,6 +121,14 @@ final class FutureEdgesTest extends Edges {
             due("reaches(1, 1)", x.reaches(1, 1), NONE);
             due("wetFor(1, 1)", x.wetFor(1, 1), 0);
         });
+        test(22, "wetFor: behind 100 DAYS by 5, and later in the dry", () -> {
+            SnailLaws x = grazing(11, 9);
+            due("wetFor(1, 38)", x.wetFor(1, 38), 5);
+            due("reaches(1, 38)", x.reaches(1, 38), 100);
+            x.set(0, 0);
+            due("reaches(1, 38) in the dry", x.reaches(1, 38), NONE);
+        });
+        test(22, "wetFor: behind 101 DAYS is by none: NONE", () -> due("wetFor", grazing(12, 1).wetFor(1, 40), NONE));
         test(22, "wetFor: by none NONE, and nothing else changes",
             () -> refused(NONE, x -> { }, x -> x.wetFor(7, 0)));
         test(22, "wetFor: without SNAILS NONE", () -> due("wetFor", new SnailLaws().wetFor(0, 0), NONE));
@@ -292,6 +312,17 @@ final class FutureEdgesTest extends Edges {
                 x.change(s, 2, 2);
             }
             due("clash(40)", x.clash(40), NONE);
+        });
+        test(27, "clash: those that other calls looked ahead to don't count", () -> {
+            SnailLaws x = pairs(4, 80);
+            due("clash(40)", x.clash(40), 4);
+            due("reaches(7, 0)", x.reaches(7, 0), NONE);
+            for (int s = 0; s < 4; s++) {
+                x.change(s, 2, 2);
+            }
+            due("clash(40) of one LAW", x.clash(40), NONE);
+            x.change(3, 2, 3);
+            due("clash(40) of two LAWS at 80", x.clash(40), 80);
         });
         test(27, "clash: nothing changes", () -> unchanged(0, x -> { }, x -> x.clash(40)));
         test(27, "clash: asked again it tells the same", () -> {

@@ -23,7 +23,8 @@ final class ImageEdgesTest extends Edges {
             due("of(7, 1)", x.of(7, 1), 2);
             due("snail(0, 0)", x.snail(0, 0), FULL);
         });
-        test(46, "image: kept again, nothing changes", () -> changesAs(1, x -> x.image(), x -> x.image(), x -> x.image()));
+        test(46, "image: kept again, nothing changes",
+            () -> changesAs(1, x -> x.image(), x -> x.image(), x -> x.image()));
         test(46, "image: the latest is kept", () -> {
             SnailLaws x = laden();
             x.image();
@@ -81,11 +82,14 @@ final class ImageEdgesTest extends Edges {
             x.undo();
             due("far(51, 69) again", x.far(51, 69), 2);
         });
-        undone("a new HEDGE", x -> x.hedge(3, 1));
+        undone("a HEDGE at the first CELL", x -> x.hedge(0, 1));
+        undone("a HEDGE at the last CELL", x -> x.hedge(80, 1));
         undone("a HEDGE that is none", x -> x.hedge(70, 0));
-        undone("GREENS", x -> x.greens(80, 9));
+        undone("GREENS of the first CELL", x -> x.greens(0, 9));
+        undone("GREENS of the last CELL", x -> x.greens(80, 9));
         undone("GREENS that a sheet told", x -> x.load(0));
-        undone("BANS", x -> x.bans(7, 255));
+        undone("BANS of the first LAW", x -> x.bans(0, 255));
+        undone("BANS of the last LAW", x -> x.bans(7, 255));
         undone("WET", x -> x.set(0, 0));
         undone("THRUSH", x -> x.set(1, 0));
         undone("z", x -> x.seed(0));
@@ -98,8 +102,40 @@ final class ImageEdgesTest extends Edges {
             int what = w;
             undone("what " + w + " of a SNAIL", x -> x.change(3, what, 5));
         }
-        undone("what a SPOT holds", x -> x.hold(0, 3));
+        undone("what the first SPOT holds", x -> x.hold(0, 4));
+        undone("what the last SPOT holds", x -> x.hold(9, 4));
         undone("that a SPOT holds nothing", x -> x.hold(4, -1));
+        for (int w = 0; w < 5; w++) {
+            int what = w;
+            test(47, "undo: takes back what " + w + " of the first and of the last of eight SNAILS", () -> {
+                SnailLaws x = laden();
+                fillSnails(x);
+                int first = x.of(0, what);
+                int last = x.of(7, what);
+                x.image();
+                x.change(0, what, 3);
+                x.change(7, what, 3);
+                x.undo();
+                due("of(0, " + what + ")", x.of(0, what), first);
+                due("of(7, " + what + ")", x.of(7, what), last);
+            });
+        }
+        test(47, "undo: a SNAIL that comes anew is as at first", () -> {
+            SnailLaws x = laden();
+            Check.add(x, 0, 0, 6, 5);
+            x.change(5, 4, 9);
+            x.undo();
+            due("snail(0, 0)", x.snail(0, 0), 1);
+            x.image();
+            Check.add(x, 0, 0, 6, 5);
+            x.change(2, 4, 9);
+            x.undo();
+            due("snail(1, 3)", x.snail(1, 3), 2);
+            int[] want = {1, 3, 0, 80, 1};
+            for (int what = 0; what < 5; what++) {
+                due("of(2, " + what + ")", x.of(2, what), want[what]);
+            }
+        });
         undone("a SPOT that holds a SNAIL that wasn't", x -> {
             x.snail(0, 0);
             x.hold(4, 5);
@@ -182,7 +218,8 @@ final class ImageEdgesTest extends Edges {
         long[] wants = {4, 5, 2, 7, 22, 13, 77, 2};
         for (int w = 0; w < 8; w++) {
             int what = w;
-            test(49, "count: what " + w + ", nothing changes", () -> unchanged(wants[what], x -> { }, x -> x.count(what)));
+            test(49, "count: what " + w + ", nothing changes",
+                () -> unchanged(wants[what], x -> { }, x -> x.count(what)));
         }
     }
 

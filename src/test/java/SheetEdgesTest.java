@@ -44,7 +44,8 @@ final class SheetEdgesTest extends Edges {
         test(40, "as: another KIND: KIND, and nothing else changes", () -> refused(KIND, x -> { }, x -> x.as(4, 1)));
         test(40, "as: BEYOND of the KIND is asked before MISSING", () -> refused(BEYOND, x -> x.as(5, 7)));
         test(40, "as: nothing changes", () -> unchanged(2, x -> { }, x -> x.as(9, 2)));
-        String[] names = {"a SNAIL", "a GREEDY one", "a SLOW one", "a SLEEPY one", "an ELDER", "a BORNE one", "a GLUTTON"};
+        String[] names = {"a SNAIL", "a GREEDY one", "a SLOW one", "a SLEEPY one", "an ELDER", "a BORNE one",
+            "a GLUTTON"};
         String[] under = {"0", "0 1", "0 2", "0 2 3", "0 2 3 4", "0 5", "0 1 6"};
         for (int k = 0; k < 7; k++) {
             for (int a = 0; a < 7; a++) {
@@ -98,12 +99,37 @@ final class SheetEdgesTest extends Edges {
                 due("land(" + cell + ", 1)", x.land(cell, 1), 0);
             }
         });
+        for (int i = 0; i < 4; i++) {
+            int s = i;
+            test(41, "sheet: sheet " + s + " of the most numbers is all 0 again, and the others stand",
+                () -> dueAnew(s));
+        }
         test(41, "sheet: the others stand", () -> {
             SnailLaws x = laden();
             x.sheet(0, 8, 40);
             due("load(1)", x.load(1), 3);
             due("land(1, 1)", x.land(1, 1), 5);
         });
+    }
+
+    /** All sheets have 40 numbers, all 9; one is laid anew. */
+    private static void dueAnew(int anew) {
+        SnailLaws x = new SnailLaws();
+        x.sheet(0, 8, 40);
+        for (int i = 0; i < 40; i++) {
+            x.write(0, i, 9);
+        }
+        for (int s = 1; s < 4; s++) {
+            x.sheet(s, 8, 40);
+            x.copy(0, 0, s, 0, 40);
+        }
+        due("sheet", x.sheet(anew, 8, 40), 40);
+        for (int s = 0; s < 4; s++) {
+            due("load(" + s + ")", x.load(s), 40);
+            for (int cell = 0; cell < 40; cell++) {
+                due("sheet " + s + ", number " + cell, x.land(cell, 1), s == anew ? 0 : 9);
+            }
+        }
     }
 
     /** Stand for the number -1, by which a trail goes anywhere, and for numbers that no trail has. */
@@ -157,7 +183,8 @@ final class SheetEdgesTest extends Edges {
     private static void write() {
         range(42, "write: sheet", 0, 3, (x, v) -> x.write(v, 0, 1));
         range(42, "write: number, of ten", 0, 9, (x, v) -> x.write(0, v, 1));
-        test(42, "write: number 0 of none is BEYOND", () -> refused(BEYOND, x -> x.sheet(3, 8, 0), x -> x.write(3, 0, 1)));
+        test(42, "write: number 0 of none is BEYOND",
+            () -> refused(BEYOND, x -> x.sheet(3, 8, 0), x -> x.write(3, 0, 1)));
         test(42, "write: number 39, the last of the most", () -> {
             SnailLaws x = laden();
             x.sheet(3, 8, 40);
@@ -165,7 +192,8 @@ final class SheetEdgesTest extends Edges {
             due("load(3)", x.load(3), 40);
             due("land(39, 1)", x.land(39, 1), 7);
         });
-        test(42, "write: number 40 of the most is BEYOND", () -> refused(BEYOND, x -> x.sheet(3, 8, 40), x -> x.write(3, 40, 1)));
+        test(42, "write: number 40 of the most is BEYOND",
+            () -> refused(BEYOND, x -> x.sheet(3, 8, 40), x -> x.write(3, 40, 1)));
         test(42, "write: MISSING, and nothing else changes", () -> refused(MISSING, x -> x.write(3, 0, 1)));
         test(42, "write: MISSING is asked before BEYOND of the number", () -> refused(MISSING, x -> x.write(3, -1, 1)));
         test(42, "write: no other number changes", () -> {
@@ -182,15 +210,19 @@ final class SheetEdgesTest extends Edges {
     private static void copyFindings() {
         range(43, "copy: sheet", 0, 3, (x, v) -> x.copy(v, 0, 0, 0, 1));
         range(43, "copy: other sheet", 0, 3, (x, v) -> x.copy(0, 0, v, 0, 1));
-        test(43, "copy: the one is MISSING, and nothing else changes", () -> refused(MISSING, x -> x.copy(3, 0, 0, 0, 1)));
-        test(43, "copy: the other is MISSING, and nothing else changes", () -> refused(MISSING, x -> x.copy(0, 0, 3, 0, 1)));
+        test(43, "copy: the one is MISSING, and nothing else changes",
+            () -> refused(MISSING, x -> x.copy(3, 0, 0, 0, 1)));
+        test(43, "copy: the other is MISSING, and nothing else changes",
+            () -> refused(MISSING, x -> x.copy(0, 0, 3, 0, 1)));
         test(43, "copy: both are MISSING", () -> refused(MISSING, x -> x.copy(3, 0, 3, 0, 0)));
         test(43, "copy: BEYOND (no such sheet) is asked before MISSING", () -> {
             refused(BEYOND, x -> x.copy(3, 0, 4, 0, 1));
             refused(BEYOND, x -> x.copy(4, 0, 3, 0, 1));
         });
-        test(43, "copy: MISSING is asked before BEYOND of the numbers", () -> refused(MISSING, x -> x.copy(0, -1, 3, 0, 1)));
-        test(43, "copy: not of as many bits: KIND, and nothing else changes", () -> refused(KIND, x -> x.copy(0, 0, 2, 0, 1)));
+        test(43, "copy: MISSING is asked before BEYOND of the numbers",
+            () -> refused(MISSING, x -> x.copy(0, -1, 3, 0, 1)));
+        test(43, "copy: not of as many bits: KIND, and nothing else changes",
+            () -> refused(KIND, x -> x.copy(0, 0, 2, 0, 1)));
         test(43, "copy: not of as many bits, no numbers: KIND", () -> refused(KIND, x -> x.copy(2, 0, 0, 0, 0)));
         test(43, "copy: KIND is asked before BEYOND of the numbers", () -> refused(KIND, x -> x.copy(0, -1, 2, 0, 1)));
         int[][] wrong = {{-1, 0, 1}, {0, -1, 1}, {0, 0, -1}, {0, 0, 4}, {8, 0, 3}, {10, 0, 1}, {0, 1, 3}, {0, 3, 1},
@@ -200,7 +232,8 @@ final class SheetEdgesTest extends Edges {
             test(43, "copy: of ten from " + w[0] + " to three from " + w[1] + ", " + w[2] + " numbers: BEYOND",
                 () -> refused(BEYOND, x -> x.copy(0, w[0], 1, w[1], w[2])));
         }
-        test(43, "copy: the one has not so many, the other has: BEYOND", () -> refused(BEYOND, x -> x.copy(1, 0, 0, 0, 4)));
+        test(43, "copy: the one has not so many, the other has: BEYOND",
+            () -> refused(BEYOND, x -> x.copy(1, 0, 0, 0, 4)));
     }
 
     private static void copy() {
@@ -285,7 +318,8 @@ final class SheetEdgesTest extends Edges {
         test(45, "judge: no numbers are so", () -> unchanged(0, x -> x.sheet(3, 8, 0), x -> x.judge(3)));
         int[] widths = {8, 16, 32};
         for (int bits : widths) {
-            test(45, "judge: " + bits + " bits, 40 numbers, the most, are so", () -> due("judge", judged(bits).judge(3), 0));
+            test(45, "judge: " + bits + " bits, 40 numbers, the most, are so",
+                () -> due("judge", judged(bits).judge(3), 0));
             test(45, "judge: " + bits + " bits, the first isn't so", () -> dueJudged(bits, 0, 7, 1));
             test(45, "judge: " + bits + " bits, the last isn't so", () -> dueJudged(bits, 39, 0, 40));
             test(45, "judge: " + bits + " bits, another LAW is in force", () -> dueJudged(bits, 3, 6, 4));

@@ -147,6 +147,8 @@ final class TextEdgesTest extends Edges {
 
     private static void wrongTokens() {
         fault("the SIGN alone", ";", 0);
+        fault("a full TAPE of 120 SIGNS, the most TOKENS", ";".repeat(120), 0);
+        fault("a full TAPE of SIGNS behind an ITEM", "wet 6" + ";".repeat(115), 6);
         fault("a NUMBER alone", "5", 0);
         String[] parts = {"at", "law", "gate", "price"};
         for (String part : parts) {
@@ -172,7 +174,10 @@ final class TextEdgesTest extends Edges {
         fault("two SIGNS", "wet 6;;wet 7", 6);
         fault("another WORD: shorter", "snai", 0);
         fault("another WORD: longer", "snails", 0);
-        fault("another WORD: as long", "snaix", 0);
+        fault("another WORD: another last letter", "snaix", 0);
+        fault("another WORD: another first letter", "xnail", 0);
+        fault("a is a letter of a WORD", "weta 6", 0);
+        fault("z is a letter of a WORD", "wetz 6", 0);
         fault("a WORD of an ITEM and a part without a blank between: as long as can be", "snailat 5", 0);
         fault("a WORD that a blank parts", "we t 6", 0);
         fault("a NUMBER that a blank parts", "bans 1 2 5", 9);
