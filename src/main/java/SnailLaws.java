@@ -187,7 +187,7 @@ public final class SnailLaws {
         switch (what) {
             case 0: return real.day;
             case 1: return real.clashes;
-            case 2: return real.lawfulCells();
+            case 2: return real.cellsWithLaw();
             case 3: return real.allLeaves();
             case 4: return real.wet;
             case 5: return real.arrivedSnails();
@@ -203,7 +203,7 @@ public final class SnailLaws {
     }
 
     public int repeals() {
-        int were = real.lawfulCells();
+        int were = real.cellsWithLaw();
         Arrays.fill(real.laws, NO_LAW);
         return were;
     }
@@ -565,7 +565,7 @@ public final class SnailLaws {
             case 1: return real.snails;
             case 2: return real.allHedges();
             case 3: return real.clashes;
-            case 4: return real.lawfulCells();
+            case 4: return real.cellsWithLaw();
             case 5: return tape.size;
             case 6: return real.z;
             case 7: return real.heldSpots();
@@ -589,7 +589,7 @@ public final class SnailLaws {
 
     // ---- what is asked of arguments
 
-    /** Answers a finding, and counts it for status(). */
+    /** Every finding is answered through here, so that status() misses none. */
     private int tell(int finding) {
         int which = LOW - finding;
         if (isWithin(which, FINDINGS - 1)) {
@@ -849,7 +849,7 @@ public final class SnailLaws {
             return cells;
         }
 
-        int lawfulCells() {
+        int cellsWithLaw() {
             return CELLS - cellsUnder(NO_LAW);
         }
 

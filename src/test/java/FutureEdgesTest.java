@@ -3,6 +3,7 @@ import java.util.function.Consumer;
 /** Promises 19 to 27, a test for each of their edges: what will be. */
 final class FutureEdgesTest extends Edges {
     private static final int SNAIL = 0;
+    private static final int GREEDY = 1;
     private static final int SLOW = 2;
     private static final int ELDER = 4;
     private static final int BORNE = 5;
@@ -220,6 +221,12 @@ final class FutureEdgesTest extends Edges {
         });
         test(25, "overtakes: the other one is AT a HEDGE: less FAR than 99",
             () -> due("overtakes(1, 4)", laden().overtakes(1, 4), 0));
+        test(25, "overtakes: the other one is shut in: less FAR than 99", () -> {
+            SnailLaws x = twoSnails();
+            Check.add(x, SNAIL, 40, 0, 40);
+            due("overtakes(2, 1)", x.overtakes(2, 1), 0);
+            due("overtakes(1, 2)", x.overtakes(1, 2), NONE);
+        });
         test(25, "overtakes: by the GATE of the other one, not by its own", () -> {
             SnailLaws x = new SnailLaws();
             Check.add(x, SNAIL, 40, 0, 0);
@@ -354,7 +361,110 @@ final class FutureEdgesTest extends Edges {
         return x;
     }
 
+    /**
+     * SNAIL 0, a GREEDY one, bears LAW 1 from 0 to 8; SNAIL 1 stays at 0 with it, where 4 of GREENS
+     * last 4 DAYS, or 2 if SNAIL 1 is GREEDY, too.
+     */
+    private static SnailLaws grazingWith(int otherKind) {
+        SnailLaws x = new SnailLaws();
+        Check.add(x, GREEDY, 0, 1, 8);
+        Check.add(x, otherKind, 0, 2, 0);
+        x.greens(0, 4);
+        return x;
+    }
+
+    /** What will be by what the other SNAILS do meanwhile. */
+    private static void others() {
+        test(19, "ahead: GREENS that another SNAIL eats hold it less long", () -> {
+            due("ahead(0, 3)", grazingWith(GREEDY).ahead(0, 3), 2);
+            due("ahead(0, 3) if it doesn't eat", grazingWith(SNAIL).ahead(0, 3), 0);
+        });
+        test(20, "lawAt: GREENS that another SNAIL eats hold it less long", () -> {
+            due("lawAt(2, 3)", grazingWith(GREEDY).lawAt(2, 3), 1);
+            due("lawAt(2, 3) if it doesn't eat", grazingWith(SNAIL).lawAt(2, 3), -1);
+        });
+        test(21, "reaches: GREENS that another SNAIL eats hold it less long", () -> {
+            due("reaches(1, 8)", grazingWith(GREEDY).reaches(1, 8), 6);
+            due("reaches(1, 8) if it doesn't eat", grazingWith(SNAIL).reaches(1, 8), 8);
+        });
+        test(22, "wetFor: another SNAIL that comes sooner in the wet brings it sooner", () -> {
+            SnailLaws x = grazingWith(SNAIL);
+            due("wetFor(2, 4)", x.wetFor(2, 4), NONE);
+            x.change(1, 3, 4);
+            due("wetFor(2, 4)", x.wetFor(2, 4), 5);
+        });
+        test(23, "comes: GREENS that another SNAIL eats hold it less long", () -> {
+            due("comes(0)", grazingWith(GREEDY).comes(0), 6);
+            due("comes(0) if it doesn't eat", grazingWith(SNAIL).comes(0), 8);
+        });
+        test(24, "kindFor: the last of GREENS that an earlier SNAIL eats doesn't hold it as a GLUTTON",
+            () -> {
+                due("kindFor(1)", behindEater(GREEDY).kindFor(1), 6);
+                due("kindFor(1) if it doesn't eat", behindEater(SNAIL).kindFor(1), 5);
+            });
+        test(25, "overtakes: GREENS that a third SNAIL eats hold it less long", () -> {
+            due("overtakes(0, 2)", besideSlowOne(GREEDY).overtakes(0, 2), 5);
+            due("overtakes(0, 2) if it doesn't eat", besideSlowOne(SNAIL).overtakes(0, 2), NONE);
+        });
+        test(26, "lag: GREENS that a third SNAIL eats hold the one less long", () -> {
+            due("lag(1, 0, 1)", besideSlowOne(GREEDY).lag(1, 0, 1), 3 - 1);
+            due("lag(1, 0, 1) if it doesn't eat", besideSlowOne(SNAIL).lag(1, 0, 1), 5 - 1);
+        });
+        test(27, "clash: GREENS that a third SNAIL eats let it come to where a LAW is", () -> {
+            due("clash(3)", besideSlowOne(GREEDY).clash(3), 0);
+            SnailLaws x = besideSlowOne(GREEDY);
+            x.change(1, 2, 1);
+            x.change(2, 1, 2);
+            due("clash(3) at 2 alone", x.clash(3), 2);
+            x.change(1, 0, SNAIL);
+            due("clash(3) if it doesn't eat", x.clash(3), NONE);
+        });
+    }
+
+    /** SNAIL 1 from 0 to 8 behind another one AT 0, where there is one of GREENS. */
+    private static SnailLaws behindEater(int kind) {
+        SnailLaws x = new SnailLaws();
+        Check.add(x, kind, 0, 2, 0);
+        Check.add(x, SNAIL, 0, 1, 8);
+        x.greens(0, 1);
+        return x;
+    }
+
+    /** Those who graze, and SNAIL 2, a SLOW one that bears LAW 0 from 0 to 8. */
+    private static SnailLaws besideSlowOne(int otherKind) {
+        SnailLaws x = grazingWith(otherKind);
+        Check.add(x, SLOW, 0, 0, 8);
+        return x;
+    }
+
+    /** What will be has no thrushes: they come by thrushes() alone. */
+    private static void noThrushes() {
+        test(19, "ahead: no thrush comes, and none is drawn", () -> {
+            SnailLaws x = withThrushes();
+            due("ahead(0, 2)", x.ahead(0, 2), 44);
+            due("count(6)", x.count(6), 1);
+        });
+        test(21, "reaches: no thrush brings a LAW to CELL 0",
+            () -> due("reaches(3, 0)", withThrushes().reaches(3, 0), NONE));
+        test(23, "comes: no thrush keeps it off", () -> due("comes(0)", withThrushes().comes(0), 2));
+        test(11, "go: no thrush comes, and none is drawn", () -> {
+            SnailLaws x = withThrushes();
+            x.go(2);
+            due("of(0, 1)", x.of(0, 1), 44);
+            due("count(6)", x.count(6), 1);
+        });
+    }
+
+    private static SnailLaws withThrushes() {
+        SnailLaws x = new SnailLaws();
+        Check.add(x, SNAIL, 40, 3, 44);
+        x.set(1, 20);
+        return x;
+    }
+
     public static void main(String[] args) {
+        others();
+        noThrushes();
         ahead();
         lawAt();
         reaches();

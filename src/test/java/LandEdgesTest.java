@@ -217,6 +217,14 @@ final class LandEdgesTest extends Edges {
         test(7, "of: FAR is 99 AT a HEDGE", () -> dueFar(39, 40, 39, 99));
         test(7, "of: FAR is 99 if its GATE is a HEDGE", () -> dueFar(39, 40, 40, 99));
         test(7, "of: FAR is 99 AT its GATE, if that is a HEDGE", () -> dueFar(40, 40, 40, 99));
+        test(7, "of: FAR is 99 without a way", () -> {
+            SnailLaws x = new SnailLaws();
+            Check.add(x, 0, 0, 0, 80);
+            x.hedge(1, 1);
+            due("of(0, 6) with a way left", x.of(0, 6), 16);
+            x.hedge(9, 1);
+            due("of(0, 6)", x.of(0, 6), 99);
+        });
     }
 
     private static void dueFar(int at, int gate, int hedge, int want) {

@@ -215,6 +215,48 @@ final class ReleaseEdgesTest extends Edges {
         test(32, "began: 40 numbers, all anywhere", () -> due("began", fullTrail(-1).began(3, 0), 0));
     }
 
+    /**
+     * SNAIL 0, a GREEDY one, goes along the first row, which is shut in, to 8; SNAIL 1 stays at 0,
+     * where 4 of GREENS last 4 DAYS, or 2 if SNAIL 1 is GREEDY, too. A sheet tells 2 behind 3 DAYS.
+     */
+    private static SnailLaws grazingWith(int otherKind) {
+        SnailLaws x = new SnailLaws();
+        for (int cell = 9; cell < 18; cell++) {
+            x.hedge(cell, 1);
+        }
+        Check.add(x, GREEDY, 4, 1, 8);
+        Check.add(x, otherKind, 0, 2, 0);
+        x.greens(0, 4);
+        x.sheet(0, 8, 4);
+        for (int i = 0; i < 4; i++) {
+            x.write(0, i, i < 3 ? -1 : 2);
+        }
+        return x;
+    }
+
+    /** Only the releases are without the other SNAILS. */
+    private static void others() {
+        test(30, "farthest: GREENS that another SNAIL eats hold it less long", () -> {
+            due("farthest(0, 6)", grazingWith(GREEDY).farthest(0, 6), 0);
+            due("farthest(0, 5)", grazingWith(GREEDY).farthest(0, 5), 1);
+            due("farthest(0, 6) if it doesn't eat", grazingWith(SNAIL).farthest(0, 6), 1);
+        });
+        test(31, "fits: GREENS that another SNAIL eats hold it less long", () -> {
+            due("fits(0, 0)", grazingWith(GREEDY).fits(0, 0), 1);
+            due("fits(0, 0) if it doesn't eat", grazingWith(SNAIL).fits(0, 0), 0);
+        });
+        test(32, "began: GREENS that another SNAIL eats hold it less long", () -> {
+            due("began(0, 0)", grazingWith(GREEDY).began(0, 0), 0);
+            due("began(0, 0) if it doesn't eat", grazingWith(SNAIL).began(0, 0), NONE);
+        });
+        test(28, "release: no thrush comes", () -> {
+            SnailLaws x = fortySteps();
+            x.set(1, 20);
+            due("release(1, 0, 39)", x.release(1, 0, 39), NONE);
+            due("count(6)", x.count(6), 1);
+        });
+    }
+
     private static void trailFindings() {
         test(31, "fits: MISSING, and nothing else changes", () -> refused(MISSING, x -> x.fits(3, 0)));
         test(32, "began: MISSING, and nothing else changes", () -> refused(MISSING, x -> x.began(3, 0)));
@@ -244,6 +286,7 @@ final class ReleaseEdgesTest extends Edges {
         releaseFindings();
         farthest();
         trails();
+        others();
         trailFindings();
         Check.end("ReleaseEdgesTest", 28, 32);
     }
